@@ -405,10 +405,6 @@ public final class FarCandles {
         return is ? 1 : 0;
     }
 
-    private static int ceiling(int a, int b) {
-        return -Math.floorDiv(-a, b);
-    }
-
     private int lowOf(int i) {
         int low = tellings.first[i] - rules.blur[tellings.list[i]];
         if (tellings.kind[i] != LIGHT) {
@@ -416,7 +412,8 @@ public final class FarCandles {
         }
         int even = rules.evenGreatest(tellings.sort[i], tellings.time[i], tellings.colour[i]);
         int miss = tellings.second[i];
-        return low - miss - ceiling(even, 1000) - dust.greatestOf(tellings.home[i], rules);
+        // To take off the CEILING of a number is to put on the FLOOR of its negative.
+        return low - miss + Math.floorDiv(-even, 1000) - dust.greatestOf(tellings.home[i], rules);
     }
 
     private int highOf(int i) {
@@ -649,12 +646,13 @@ public final class FarCandles {
         final int[] redFrom = new int[HOMES];
         final int[] redTo = new int[HOMES];
 
+        // Nothing here is below 0: so a division that cuts is the FLOOR.
         int leastOf(int home, Rules rules) {
-            return Math.floorDiv(redFrom[home] * rules.dustLeast, 10);
+            return redFrom[home] * rules.dustLeast / 10;
         }
 
         int greatestOf(int home, Rules rules) {
-            return ceiling(redTo[home] * rules.dustGreatest, 10);
+            return (redTo[home] * rules.dustGreatest + 9) / 10;
         }
     }
 
@@ -792,7 +790,7 @@ public final class FarCandles {
         }
 
         private boolean readSort(Rules draft) {
-            boolean good = readNumber(SORTS - 1)
+            boolean good = readNumber(0, SORTS - 1)
                     && readWord("time") && readSigned(-MOST_LAW, MOST_LAW)
                     && readWord("to") && readSigned(latest(), MOST_LAW)
                     && readWord("colour") && readSigned(-MOST_LAW, MOST_LAW)
@@ -806,8 +804,8 @@ public final class FarCandles {
         }
 
         private boolean readDust(Rules draft) {
-            boolean good = readNumber(MOST_DUST)
-                    && readWord("to") && readNumberFrom(latest(), MOST_DUST) && readEnd();
+            boolean good = readNumber(0, MOST_DUST)
+                    && readWord("to") && readNumber(latest(), MOST_DUST) && readEnd();
             if (good) {
                 draft.dustLeast = numbers[0];
                 draft.dustGreatest = numbers[1];
@@ -816,7 +814,7 @@ public final class FarCandles {
         }
 
         private boolean readBlur(Rules draft) {
-            boolean good = readNumber(LISTS - 1) && readWord("by") && readNumber(MOST_BLUR) && readEnd();
+            boolean good = readNumber(0, LISTS - 1) && readWord("by") && readNumber(0, MOST_BLUR) && readEnd();
             if (good) {
                 draft.blur[numbers[0]] = numbers[1];
             }
@@ -824,7 +822,7 @@ public final class FarCandles {
         }
 
         private boolean readOwn(Rules draft) {
-            boolean good = readNumber(MOST_OWN) && readEnd();
+            boolean good = readNumber(0, MOST_OWN) && readEnd();
             if (good) {
                 draft.own = numbers[0];
             }
@@ -832,7 +830,7 @@ public final class FarCandles {
         }
 
         private boolean readClaim(Rules draft) {
-            if (!readNumber(HOMES - 1)) {
+            if (!readNumber(0, HOMES - 1)) {
                 return false;
             }
             skipBlanks();
@@ -855,7 +853,11 @@ public final class FarCandles {
 
         private boolean readWord(String word) {
             skipBlanks();
-            return tookWord(word) || fail(CANNOT_STAND, at);
+            if (!isWord(word)) {
+                return fail(CANNOT_STAND, at);
+            }
+            at += word.length();
+            return true;
         }
 
         private boolean tookWord(String word) {
@@ -876,11 +878,7 @@ public final class FarCandles {
             return !isLetter(byteAt(at + word.length()));
         }
 
-        private boolean readNumber(int greatest) {
-            return readNumberFrom(0, greatest);
-        }
-
-        private boolean readNumberFrom(int least, int greatest) {
+        private boolean readNumber(int least, int greatest) {
             skipBlanks();
             return readFigures(at, least, greatest);
         }
