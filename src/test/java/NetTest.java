@@ -241,6 +241,24 @@ public final class NetTest {
     odd(z, 2, 0, 1);
     z.leave(0, true);
     odd(z, 1, 1, NONE);
+    // Two quarrels apart: the pairs are 1 or 2 with 0 or 3, in whatever order they are found.
+    FarCandles w = new FarCandles();
+    w.shift(0, 2, 0, 1);
+    w.shift(0, 1, 0, 1);
+    w.shift(0, 1, 7, 8);
+    w.shift(0, 2, 7, 8);
+    odd(w, 2, 0, 1);
+    w.shift(0, 2, 0, 1);
+    odd(w, 2, 1, 3);
+    w.leave(4, true);
+    w.shift(0, 1, 7, 8);
+    odd(w, 2, 0, 1);
+    w.shift(0, 2, 7, 8);
+    odd(w, 2, 0, 1);
+    w.leave(1, true);
+    w.leave(0, true);
+    w.leave(4, false);
+    odd(w, 1, 4, NONE);
   }
 
   private static void worth() {
@@ -344,7 +362,16 @@ public final class NetTest {
     D.due("no further", y.steps(3), NONE);
     y.light(0, 5, 4, 0, 0, 0, 0);
     D.due("one light is no step", y.steps(3), NONE);
+    y.leave(0, true);
+    D.due("no home has a shift", y.steps(9), NONE);
+    y.leave(0, false);
     y.light(0, 5, 3, 0, 0, 0, 0);
     D.due("the longest way", y.steps(3), 12);
+    FarCandles z = new FarCandles();
+    z.light(0, 5, 0, 0, 0, 0, 0);
+    z.light(0, 5, 9, 0, 0, 0, 0);
+    z.shift(0, 9, 0, 0);
+    D.due("from the last home to the first", z.steps(0), 2);
+    D.due("no light there", z.steps(1), NONE);
   }
 }

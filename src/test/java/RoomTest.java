@@ -41,7 +41,7 @@ public final class RoomTest {
     x.shift(0, 0, 1000, 1100);
     for (int i = 1; i < 80; i++) {
       int home = i * 7 % 10;
-      int sort = i * 5 % 6;
+      int sort = i / 3 % 6;
       x.light(i % 6, sort, home, 2000 + 100 * home + 50 * sort + i * 37 % 50 + (i % 13 == 0 ? strife : 0), 60, 0, 0);
     }
     for (int home = 0; home < 10; home++) {

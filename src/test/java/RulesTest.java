@@ -7,6 +7,7 @@ public final class RulesTest {
   public static void main(String[] args) {
     feed();
     read();
+    asAtFirst();
     forms();
     cannotStand();
     badNumbers();
@@ -72,6 +73,32 @@ public final class RulesTest {
     D.due("claims are gone", x.count(5), 0);
   }
 
+  /** Nothing of an older text is left, be it the latest one or the one ahead of that. */
+  private static void asAtFirst() {
+    FarCandles x = new FarCandles();
+    String all = "own 5;dust 1 to 2;blur 0 by 3;blur 5 by 4;claim 1 above 2;claim 3 above 4;";
+    String sorts = "sort 0 time 1 to 2 colour 3 to 4;sort 5 time 5 to 6 colour 7 to 8;";
+    for (int round = 0; round < 3; round++) {
+      D.due("all", Due.read(x, all + sorts), 8);
+      D.due("none", Due.read(x, round == 1 ? " " : ""), 0);
+      for (int what = 0; what < 4; what++) {
+        D.due("law of sort 0", x.rule(what, 0), 0);
+        D.due("law of sort 5", x.rule(what, 5), 0);
+      }
+      D.due("dust", x.rule(4, 0), 31);
+      D.due("dust", x.rule(5, 0), 31);
+      D.due("blur", x.rule(6, 0), 0);
+      D.due("blur", x.rule(6, 5), 0);
+      D.due("own", x.rule(7, 0), 0);
+      D.due("claims", x.count(5), 0);
+    }
+    D.due("all, with a fault", Due.read(x, all + sorts + "x"), -11);
+    D.due("one claim", Due.read(x, "claim 9 below 9;"), 1);
+    D.due("one claim", x.count(5), 1);
+    D.due("its home", x.claim(0, 1), 9);
+    D.due("law of sort 0", x.rule(0, 0), 0);
+  }
+
   private static void forms() {
     D.dueText("sort0time-30to-20colour5to7;", 1, -1);
     D.dueText("  sort  0  time  -30  to  -20  colour  5  to  7  ;  ", 1, -1);
@@ -81,6 +108,7 @@ public final class RulesTest {
     D.dueText("claim 0 above -00000;", 1, -1);
     D.dueText("sort 5 time -9999 to 9999 colour -9999 to 9999;", 1, -1);
     D.dueText("dust 5 to 5;", 1, -1);
+    D.dueText("own 0;blur 0 by 0;dust 0 to 0;claim 0 above 0;sort 0 time 0 to 0 colour 0 to 0;", 5, -1);
     FarCandles x = new FarCandles();
     Due.read(x, "claim 9 below -40000;claim 0 above 00012 ;");
     D.due("home", x.claim(0, 1), 9);
@@ -96,6 +124,8 @@ public final class RulesTest {
     D.dueText("5", -11, 0);
     D.dueText("-", -11, 0);
     D.dueText("owns 5;", -11, 0);
+    D.dueText("owna 5;", -11, 0);
+    D.dueText("ownz 5;", -11, 0);
     D.dueText("ow n 5;", -11, 0);
     D.dueText("Own 5;", -11, 0);
     D.dueText("ownN 5;", -11, 3);

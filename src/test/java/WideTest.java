@@ -118,6 +118,12 @@ public final class WideTest {
     x.redness(0, NONE);
     x.redness(2, 99999);
     D.due("home 2 could", x.box(50), NONE);
+    x.shift(0, 5, 10000, 40000);
+    D.due("as before", x.box(49), 5);
+    x.leave(5, true);
+    D.due("home 5 reaches further now", x.box(49), NONE);
+    D.due("and not nearer", x.box(51), 5);
+    x.leave(5, false);
     x.blind(999);
     D.due("real ends", x.box(50), NONE);
     D.due("real ends", x.boxes(3), 2);
@@ -156,6 +162,10 @@ public final class WideTest {
     D.due("OUTSIDE is ahead of NOT", x.delay(4, 0, 1), OUTSIDE);
     x.blind(999);
     D.due("real ends", x.delay(0, 1, 9999), 1);
+    x.leave(0, true);
+    D.due("loose by now", x.delay(0, 1, 9999), NOT);
+    x.shift(0, 0, 0, 0);
+    D.due("nearer by now", x.delay(0, 1, 1), 999);
     FarCandles y = new FarCandles();
     y.shift(0, 0, 40000, 40000);
     D.due("the farthest", y.delay(0, 1, 2000000000), 98000000000L);
