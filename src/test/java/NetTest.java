@@ -159,6 +159,12 @@ public final class NetTest {
     D.due("the farthest shifts", x.widening(NONE), 40000);
     D.due("as known by 3", x.widening(3), 19995);
     D.due("the net is not widened by it", x.ends(0, NONE, 0), QUARREL);
+    for (int gap = 1; gap <= 40000; gap += gap < 40 ? 1 : 333) {
+      FarCandles z = new FarCandles();
+      z.shift(0, 0, gap, gap);
+      z.shift(0, 0, 0, 0);
+      D.due("a gap of " + gap, z.widening(NONE), (gap + 1) / 2);
+    }
     FarCandles y = new FarCandles();
     Due.read(y, "sort 0 time -9999 to -9999 colour -9999 to -9999;sort 1 time 9999 to 9999 colour 9999 to 9999; dust 99 to 99;");
     y.light(0, 0, 0, 30000, 0, 3000, 3000);
@@ -241,6 +247,16 @@ public final class NetTest {
     odd(z, 2, 0, 1);
     z.leave(0, true);
     odd(z, 1, 1, NONE);
+    for (int home = 0; home < 10; home += 9) {
+      for (int near = 0; near <= 20; near += 20) {
+        int[] places = {near, 20 - near, 20 - near, near};
+        FarCandles v = new FarCandles();
+        for (int place : places) {
+          v.shift(0, home, place, place + 1);
+        }
+        odd(v, 2, 0, 3);
+      }
+    }
     // Two quarrels apart: the pairs are 1 or 2 with 0 or 3, in whatever order they are found.
     FarCandles w = new FarCandles();
     w.shift(0, 2, 0, 1);

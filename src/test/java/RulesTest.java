@@ -8,6 +8,7 @@ public final class RulesTest {
     feed();
     read();
     asAtFirst();
+    nothingBehindTheText();
     forms();
     cannotStand();
     badNumbers();
@@ -80,6 +81,7 @@ public final class RulesTest {
     String sorts = "sort 0 time 1 to 2 colour 3 to 4;sort 5 time 5 to 6 colour 7 to 8;";
     for (int round = 0; round < 3; round++) {
       D.due("all", Due.read(x, all + sorts), 8);
+      D.due("all again", Due.read(x, all + sorts), 8);
       D.due("none", Due.read(x, round == 1 ? " " : ""), 0);
       for (int what = 0; what < 4; what++) {
         D.due("law of sort 0", x.rule(what, 0), 0);
@@ -97,6 +99,29 @@ public final class RulesTest {
     D.due("one claim", x.count(5), 1);
     D.due("its home", x.claim(0, 1), 9);
     D.due("law of sort 0", x.rule(0, 0), 0);
+  }
+
+  /** What an older and longer text had behind the end of this one does not count. */
+  private static void nothingBehindTheText() {
+    FarCandles x = new FarCandles();
+    D.due("the older one", Due.read(x, "own 5;"), 1);
+    D.due("no ';'", Due.read(x, "own 5"), -11);
+    D.due("at its end", x.fault(), 5);
+    D.due("the older one", Due.read(x, "own 123456;"), -12);
+    D.due("five figures", Due.read(x, "own 12345"), -12);
+    D.due("six figures", Due.read(x, "own 123456"), -12);
+    D.due("three figures", Due.read(x, "own 123"), -11);
+    D.due("at its end", x.fault(), 7);
+    D.due("the older one", Due.read(x, "claim 1 above 2;"), 1);
+    D.due("half a word", Due.read(x, "claim 1 abo"), -11);
+    D.due("at its first letter", x.fault(), 8);
+    String full = "own 5;" + " ".repeat(233);
+    D.due("a figure as the last of 240 bytes", Due.read(x, full + "7"), -11);
+    D.due("a full text ends within a number", Due.read(x, " ".repeat(235) + "own 7"), -11);
+    D.due("at its end", x.fault(), 240);
+    D.due("a full text ends within a word", Due.read(x, " ".repeat(237) + "own"), -11);
+    D.due("at its end", x.fault(), 240);
+    D.due("a full text", Due.read(x, " ".repeat(234) + "own 7;"), 1);
   }
 
   private static void forms() {

@@ -120,6 +120,8 @@ public final class TellingsTest {
     D.due("the 80th is told", x.told(79, 0), 2);
     D.due("no 81st", x.told(80, 0), FarCandles.UNKNOWN);
     D.due("known by 80", x.ends(0, 80, 1), 9);
+    D.due("steps of 80", x.steps(0), 0);
+    D.due("steps of 80", x.steps(9), FarCandles.NONE);
     D.due("known by 81", x.ends(0, 81, 1), FarCandles.OUTSIDE);
   }
 
