@@ -1,15 +1,36 @@
 import java.nio.charset.StandardCharsets;
+import java.util.function.IntToLongFunction;
+import java.util.function.LongUnaryOperator;
 
 /** What all tests share: counts and prints answers that are not as due; feeds texts. */
 final class Due {
   private int wrong = 0;
   private int asked = 0;
+  private String sentence = "";
+  private int sentences = 0;
+  private int askedAhead = 0;
+
+  /** From here on the answers that are asked for hold this sentence of the document. */
+  void said(String next) {
+    closeSentence();
+    sentence = next;
+    sentences++;
+    askedAhead = asked;
+  }
+
+  private void closeSentence() {
+    if (!sentence.isEmpty() && asked == askedAhead) {
+      wrong++;
+      System.out.println("no answer was asked for \"" + sentence + "\"");
+    }
+    sentence = "";
+  }
 
   void due(String call, long got, long want) {
     asked++;
     if (got != want) {
       wrong++;
-      System.out.println(call + " answered " + got + ", due is " + want);
+      System.out.println((sentence.isEmpty() ? "" : "[" + sentence + "] ") + call + " answered " + got + ", due is " + want);
     }
   }
 
@@ -17,9 +38,35 @@ final class Due {
     due(call, holds ? 1 : 0, 1);
   }
 
+  /**
+   * The last numbers within the bounds are answered as wanted; the first ones outside and those
+   * that a narrower number would take for one within are refused. Each call has its own object.
+   */
+  void edges(String call, int least, int greatest, long refusal, IntToLongFunction ask, IntToLongFunction want) {
+    longEdges(call, least, greatest, refusal, n -> ask.applyAsLong((int) n), n -> want.applyAsLong((int) n));
+    long[] outside = {Integer.MIN_VALUE, Integer.MIN_VALUE + 1L, Integer.MAX_VALUE, Integer.MAX_VALUE - 1L,
+      least + 65536L * 65535, greatest - 65536L * 65535, least + 131072L, greatest - 131072L};
+    for (long n : outside) {
+      boolean isOut = n == (int) n && (n < least || n > greatest);
+      if (isOut) {
+        due(call + " of " + n, ask.applyAsLong((int) n), refusal);
+      }
+    }
+  }
+
+  void longEdges(String call, long least, long greatest, long refusal, LongUnaryOperator ask, LongUnaryOperator want) {
+    for (long n : new long[] {least, greatest}) {
+      due(call + " of " + n, ask.applyAsLong(n), want.applyAsLong(n));
+    }
+    for (long n : new long[] {least - 1, greatest + 1}) {
+      due(call + " of " + n, ask.applyAsLong(n), refusal);
+    }
+  }
+
   /** Prints how it went and ends the program, with 1 if an answer was wrong. */
   void end() {
-    System.out.println(asked + " answers, " + wrong + " not as due");
+    closeSentence();
+    System.out.println(asked + " answers" + (sentences == 0 ? "" : " to " + sentences + " sentences") + ", " + wrong + " not as due");
     System.exit(wrong == 0 && asked > 0 ? 0 : 1);
   }
 
@@ -42,6 +89,13 @@ final class Due {
   static int read(FarCandles x, String text) {
     feed(x, text);
     return x.read();
+  }
+
+  /** A new object by whose rules this text is. */
+  static FarCandles ruled(String text) {
+    FarCandles x = new FarCandles();
+    read(x, text);
+    return x;
   }
 
   /** Reads a text on an object of its own: its answer and the place of its fault are as due. */
