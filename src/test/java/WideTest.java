@@ -47,8 +47,8 @@ public final class WideTest {
 
   /** The table is near ten to the fifth part of a thousandth: a wrong number in it shows. */
   private static void farGrows() {
-    FarCandles x = new FarCandles();
     for (int f = 0; f <= 40000; f += 100) {
+      FarCandles x = new FarCandles();
       double real = 1000 * Math.pow(10, f / 5000.0);
       D.due("far(" + f + ", 0) is not above", x.far(f, 0) <= real * 1.0000001);
       D.due("far(" + f + ", 1) is not below", x.far(f, 1) >= real * 0.9999999);
