@@ -71,7 +71,8 @@ public final class AgainstPlainTest {
     sorts = 1 + dice.nextInt(6);
     wildness = dice.nextInt(3) == 0 ? 40 : 400;
     int calls = dice.nextInt(20) == 0 ? 512 : 40 + dice.nextInt(160);
-    for (int c = 0; c < calls; c++) {
+    // A text takes up to forty calls: what an object answers behind its 512th is free.
+    for (int c = 0; c < calls && trail.size() <= 512 - 40; c++) {
       if (!step()) {
         wrong++;
         System.out.println("seed " + seed + ":");
