@@ -331,6 +331,13 @@ public final class EdgesOfNetTest {
     z.light(0, 0, 0, -5000, 0, 3000, 3000);
     // 80000 against -84794.
     D.due("the other way round", z.widening(NONE), 54932);
+    FarCandles most = Due.ruled("sort 0 time -9999 to -9999 colour -9999 to -9999;sort 1 time 9999 to 9999 colour 9999 to 9999;");
+    most.anchor(0, 0, -40000, -40000);
+    most.anchor(0, 1, 40000, 40000);
+    most.light(0, 0, 9, 30000, 0, 3000, 3000);
+    most.light(0, 1, 9, -5000, 0, 3000, 3000);
+    // 89994 and 40000 against -64994 and -40000, shared by four.
+    D.due("two anchors and two lights", most.widening(NONE), 58747);
   }
 
   private static void blameIsASet() {
