@@ -958,7 +958,8 @@ public final class FarCandles {
     private static final class Net {
         static final int ORIGIN = HOMES + SORTS;
         static final int NODES = ORIGIN + 1;
-        private static final int NOWHERE = Integer.MAX_VALUE;
+        // Longer than any way.
+        private static final int NOWHERE = 2000000000;
 
         private final boolean[] isIn = new boolean[MOST_TELLINGS];
         private final int[] list = new int[MOST_TELLINGS];

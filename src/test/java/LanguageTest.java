@@ -6,7 +6,9 @@ import java.nio.file.Files;
 import java.nio.file.Path;
 import java.util.ArrayList;
 import java.util.List;
+import java.util.Map;
 import java.util.Set;
+import java.util.TreeMap;
 import java.util.TreeSet;
 import java.util.regex.Matcher;
 import java.util.regex.Pattern;
@@ -27,14 +29,17 @@ public final class LanguageTest {
   private static final String[] FORBIDDEN = {
     "\\bthrows?\\b", "\\btry\\b", "\\bcatch\\b", "\\bsynchronized\\b", "\\bassert\\b", "->", "::", "\\bimport\\b",
     "\\bpackage\\b", "\\bfloat\\b", "\\bdouble\\b", "\\bSystem\\b", "\\bThread\\b", "Exact\\b", "\\bstatic\\s*\\{",
-    "\\bvar\\b", "\\bObject\\b", "\\bhashCode\\b", "\\btoString\\b", "@", "\\bprotected\\b", "\\bvolatile\\b"};
+    "\\bvar\\b", "\\bObject\\b", "\\binstanceof\\b", "\\bhashCode\\b", "\\btoString\\b", "@", "\\bprotected\\b", "\\bvolatile\\b"};
 
   public static void main(String[] args) throws Exception {
     face();
     nested();
     String code = withoutComments(Files.readString(Path.of(SOURCE)));
     words(code);
-    methods(code);
+    library(code);
+    Map<String, String> bodies = methods(code);
+    depth(bodies);
+    makesNothing(bodies);
     D.end();
   }
 
@@ -119,23 +124,80 @@ public final class LanguageTest {
     D.due("one public class", code.split("\\bclass\\b").length > 1 && code.split("public (final )?class").length == 2);
   }
 
-  /** Methods stay short: from a header with its brace to the brace that closes it. */
-  private static void methods(String code) {
+  /** Whatever is not the class's own must be one of the few things that rule 4 lists. */
+  private static void library(String code) {
+    Set<String> own = new TreeSet<>();
+    for (Class<?> k : all()) {
+      own.add(k.getSimpleName());
+    }
+    Matcher name = Pattern.compile("(?<![\\w.])([A-Z][a-z]\\w*)(\\.\\w+)?").matcher(code);
+    Set<String> used = new TreeSet<>();
+    while (name.find()) {
+      if (!own.contains(name.group(1))) used.add(name.group());
+    }
+    Set<String> listed = Set.of("Math.floorDiv", "Math.max", "Math.min", "String");
+    D.due("nothing of the library but " + listed + ": " + used, listed.containsAll(used));
+    Matcher text = Pattern.compile("\\bword\\.(\\w+)").matcher(code);
+    while (text.find()) {
+      D.due("a String's " + text.group(1), Set.of("length", "charAt").contains(text.group(1)));
+    }
+  }
+
+  /** Methods stay short: from a header with its brace to the brace that closes it. Their bodies, by name. */
+  private static Map<String, String> methods(String code) {
     Pattern header = Pattern.compile("\\)\\s*\\{");
     String[] lines = code.split("\n", -1);
+    Map<String, String> bodies = new TreeMap<>();
     for (int n = 0; n < lines.length; n++) {
       boolean begins = header.matcher(lines[n]).find() && lines[n].matches("\\s*((public|private|static|final)\\s+)*[\\w\\[\\]]+\\s+\\w+\\(.*|\\s*\\w+\\(\\)\\s*\\{")
           && !lines[n].matches("\\s*(if|for|while|switch|else|return)\\b.*");
       if (!begins) continue;
       int depth = 0;
       int end = n;
+      StringBuilder body = new StringBuilder();
       for (int k = n; k < lines.length; k++) {
         depth += lines[k].length() - lines[k].replace("{", "").length();
         depth -= lines[k].length() - lines[k].replace("}", "").length();
         end = k;
+        body.append(k == n ? "" : lines[k] + "\n");
         if (depth == 0) break;
       }
       D.due("a short method at" + lines[n] + " (" + (end - n + 1) + " lines)", end - n + 1 <= 60);
+      String name = lines[n].replaceAll("\\(.*", "").replaceAll(".*\\s", "");
+      // Of methods of one name the calls of all count.
+      bodies.merge(name, body.toString(), String::concat);
+    }
+    Set<String> declared = new TreeSet<>();
+    for (Class<?> k : all()) {
+      for (Method m : k.getDeclaredMethods()) declared.add(m.getName());
+    }
+    D.due("all methods were looked at", bodies.keySet().containsAll(declared));
+    return bodies;
+  }
+
+  /** Calls that are no recursion go at most eight deep; and there is no recursion. */
+  private static void depth(Map<String, String> bodies) {
+    for (String name : bodies.keySet()) {
+      int deep = deepest(name, bodies, 1);
+      D.due(name + " goes " + deep + " deep", deep <= 8);
+    }
+  }
+
+  private static int deepest(String name, Map<String, String> bodies, int level) {
+    int deep = level;
+    Matcher call = Pattern.compile("\\b(\\w+)\\(").matcher(bodies.get(name));
+    while (level <= 20 && call.find()) {
+      if (bodies.containsKey(call.group(1))) {
+        deep = Math.max(deep, deepest(call.group(1), bodies, level + 1));
+      }
+    }
+    return deep;
+  }
+
+  /** All that is ever made is made with the object. */
+  private static void makesNothing(Map<String, String> bodies) {
+    for (Map.Entry<String, String> e : bodies.entrySet()) {
+      D.due(e.getKey() + " makes nothing", !Pattern.compile("\\bnew\\b").matcher(e.getValue()).find());
     }
   }
 }
