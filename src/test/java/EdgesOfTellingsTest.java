@@ -308,6 +308,21 @@ public final class EdgesOfTellingsTest {
     D.due("the greatest of all", y.told(0, 6), 59994);
     y.light(0, 2, 0, 0, 0, 3000, 3000);
     D.due("another sort has none", y.told(1, 6), 0);
+    nearZero("time -9999 to 9999 colour 1000 to 5000", 0, -1, 1, 5);
+    nearZero("time -9999 to 9999 colour 1000 to 5000", 0, 1, -5, -1);
+    nearZero("time -9999 to 9999 colour 1000 to 5000", 0, 0, 0, 0);
+    nearZero("time -9999 to 9999 colour -5000 to -1000", 0, -1, -5, -1);
+    nearZero("time -9999 to 9999 colour -5000 to -1000", 0, 1, 1, 5);
+    nearZero("time 1000 to 5000 colour -9999 to 9999", 1, 0, -5, -1);
+    nearZero("time -9999 to 9999 colour -9999 to 9999", 0, -1, -10, 10);
+  }
+
+  /** Times and colours at 0 and next to it, where least and greatest change places. */
+  private static void nearZero(String laws, int time, int c, int low, int high) {
+    FarCandles x = Due.ruled("sort 3 " + laws + ";");
+    x.light(0, 3, 0, 0, 0, time, c);
+    D.due("low at time " + time + ", colour " + c + " by " + laws, x.told(0, 5), low);
+    D.due("high at time " + time + ", colour " + c + " by " + laws, x.told(0, 6), high);
   }
 
   private static void dusty(String rules, int p, int q, int low, int high) {
