@@ -107,6 +107,29 @@ public final class EdgesOfHiddenTest {
     y.blind(-999);
     D.due("an end as NONE is", y.ends(0, NONE, 1), -1);
     D.due("a real end as NONE is", shifted(-1, -1).ends(0, NONE, 0), -1);
+    int[] refusals = {FarCandles.UNKNOWN, FarCandles.OUTSIDE, FarCandles.NOT, FarCandles.FULL,
+      FarCandles.QUARREL, FarCandles.LOOSE, FarCandles.LARGE};
+    for (int refusal : refusals) {
+      for (int n = -999; n <= 999; n += 999) {
+        endAsRefusal(refusal, n);
+      }
+    }
+  }
+
+  /** Six of the widest steps lead so far out that an end is as a refusal: it is an end all the same. */
+  private static void endAsRefusal(int refusal, int n) {
+    String of = " of an end as " + refusal + " by " + n;
+    // A step of brightness 25000 to -5000 is 5000 less than the widest one, which is 176786.
+    FarCandles x = Due.widestWay(refusal - n + 6 * 171786, 25000, -5000);
+    D.due("blind" + of, x.blind(n), 1);
+    D.due("ends" + of, x.ends(6, NONE, 0), refusal);
+    D.due("homes that are loose" + of, x.count(4), 3);
+    D.due("lead" + of, x.lead(6, 0, NONE), 13);
+    D.due("worth" + of, x.worth(0, 6), FarCandles.LARGE);
+    D.due("worth of another list" + of, x.worth(1, 6), 0);
+    D.due("delay" + of, x.delay(6, 1, 1), NOT);
+    D.due("open" + of, x.open(), n);
+    D.due("real end" + of, x.ends(6, NONE, 0), refusal - n);
   }
 
   private static void onNothingElse() {

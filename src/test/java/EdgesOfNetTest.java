@@ -183,6 +183,20 @@ public final class EdgesOfNetTest {
     ends("with dust", x, 6, -40000 - 6 * 94994 - 6 * 3996 - 999 - 6200, -40000 - 6 * 94994 + 6 * 3996 + 999);
     x.blind(-999);
     D.due("with HIDDEN", x.ends(6, NONE, 0), -40000 - 6 * 94994 - 6 * 3996 - 999 - 6200 - 999);
+    // Down: from a high of 30000 and 999 and 59994 to a low of -5000 less 999, 59994 and 19800 of dust.
+    FarCandles down = Due.widestWay(-40000, 30000, -5000);
+    // Up: from a low of -5000 less 999, 59994 and 19800 to a high of 30000 and 999 and 59994.
+    FarCandles up = Due.widestWay(40000, -5000, 30000);
+    for (int home = 0; home <= 6; home++) {
+      D.due("lower end by " + home + " widest steps down", down.ends(home, NONE, 0), -40000 - home * 176786);
+      D.due("upper end by " + home + " widest steps up", up.ends(home, NONE, 1), 40000 + home * 176786);
+      D.due("between, least", down.between(0, home, 0), -home * 176786);
+      D.due("between, greatest", up.between(0, home, 1), home * 176786);
+    }
+    // The other end of a step down: a high of -5000 and 60993 less a low of 30000 less 80793.
+    D.due("upper end by six widest steps down", down.ends(6, NONE, 1), -40000 + 6 * 106786);
+    down.blind(-999);
+    D.due("with HIDDEN", down.ends(6, NONE, 0), -40000 - 6 * 176786 - 999);
   }
 
   private static void loose() {

@@ -98,6 +98,26 @@ final class Due {
     return x;
   }
 
+  /**
+   * By list 0: home 0 at a shift, homes 1 to 6 each one step further by two lights of a sort, of which
+   * the nearer has this brightness and the farther that one; all as wide as rules can make it.
+   */
+  static FarCandles widestWay(int shift, int nearer, int farther) {
+    StringBuilder text = new StringBuilder("dust0to99;");
+    for (int sort = 0; sort < 6; sort++) {
+      text.append("sort").append(sort).append("time-9999to9999colour-9999to9999;");
+    }
+    FarCandles x = ruled(text.toString());
+    x.shift(0, 0, shift, shift);
+    for (int sort = 0; sort < 6; sort++) {
+      x.redden(sort, 0, 2000);
+      x.light(0, sort, sort, nearer, 999, 3000, 3000);
+      x.light(0, sort, sort + 1, farther, 999, 3000, 3000);
+    }
+    x.redden(6, 0, 2000);
+    return x;
+  }
+
   /** Reads a text on an object of its own: its answer and the place of its fault are as due. */
   void dueText(String text, int want, int place) {
     FarCandles x = new FarCandles();
